@@ -420,7 +420,7 @@ public final class OnionCourt {
         for (int i = 0; i < ANSWERS; i++) {
             Answer one = now.answer(i);
             if (one != null && (answers >> i & 1) == 1) {
-                scales.add(one, questions.holds(one.question()), inForce, matter);
+                scales.add(one, questions.holds(one.asked()), inForce, matter);
             }
         }
     }
@@ -825,11 +825,11 @@ public final class OnionCourt {
             honesty = other.honesty;
         }
 
-        int witness() {
+        int who() {
             return witness;
         }
 
-        int question() {
+        int asked() {
             return question;
         }
 
@@ -1055,7 +1055,7 @@ public final class OnionCourt {
         int saidBy(int w, boolean onlyCried) {
             int found = 0;
             for (int i = 0; i < said && i < ANSWERS; i++) {
-                if (answers[i].witness() == w && (answers[i].hasCried() || !onlyCried)) {
+                if (answers[i].who() == w && (answers[i].hasCried() || !onlyCried)) {
                     found++;
                 }
             }
@@ -1065,7 +1065,7 @@ public final class OnionCourt {
         int criedAt(int k) {
             int found = 0;
             for (int i = 0; i < said && i < ANSWERS; i++) {
-                if (answers[i].question() == k && answers[i].hasCried()) {
+                if (answers[i].asked() == k && answers[i].hasCried()) {
                     found++;
                 }
             }
@@ -1075,7 +1075,7 @@ public final class OnionCourt {
         Answer lastOf(int w, int k) {
             Answer last = null;
             for (int i = 0; i < said && i < ANSWERS; i++) {
-                if (answers[i].witness() == w && answers[i].question() == k) {
+                if (answers[i].who() == w && answers[i].asked() == k) {
                     last = answers[i];
                 }
             }
@@ -1095,7 +1095,7 @@ public final class OnionCourt {
         int fittingWithout(int liars, Questions questions) {
             int honest = 0;
             for (int i = 0; i < said && i < ANSWERS; i++) {
-                honest |= (liars >> answers[i].witness() & 1) == 1 ? 0 : 1 << i;
+                honest |= (liars >> answers[i].who() & 1) == 1 ? 0 : 1 << i;
             }
             return fitting(honest, questions);
         }
