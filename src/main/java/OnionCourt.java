@@ -428,10 +428,10 @@ public final class OnionCourt {
     /** The told QUESTION nearest to a half by what lies on the scales. */
     private int mostOpen() {
         int best = MISSING;
-        long least = Long.MAX_VALUE;
+        long least = 0;
         for (int k = 0; k < QUESTIONS; k++) {
             long off = Math.abs(2 * scales.within(questions.holds(k)) - scales.all());
-            if (questions.isTold(k) && off < least) {
+            if (questions.isTold(k) && (best == MISSING || off < least)) {
                 least = off;
                 best = k;
             }
@@ -576,7 +576,7 @@ public final class OnionCourt {
         }
     }
 
-    /** QUESTIONS are held as the WORLDS (bits) in which they hold: no FORMULA is read twice. */
+    /** QUESTIONS are held as the WORLDS (bits) in which they hold, so that no FORMULA is read twice. */
     private static final class Questions {
         private final int[] worlds = new int[QUESTIONS];
         private int told;
@@ -862,7 +862,7 @@ public final class OnionCourt {
             }
         }
 
-        /** The weight of this ANSWER in a WORLD in which its QUESTION holds or not. */
+        /** The same in all WORLDS in which the QUESTION holds, and in all others: so it is asked but twice. */
         int weight(boolean holds, Law law, Case matter) {
             boolean lies = yes != holds;
             matter.open(witness, honesty, week);
@@ -1116,8 +1116,6 @@ public final class OnionCourt {
             witness = w;
             honesty = honestyThen;
             week = weekThen;
-            strength = 0;
-            layers = 0;
             question = 0;
             holds = 0;
             lies = 0;

@@ -151,6 +151,14 @@ public final class AnswerTest {
         due("struck out", 2, x.agree(0, 1, 1));
         x.witness(1, 5);
         due("the ANSWERS stay", 2, x.agree(1, 0, 1));
+        x.witness(2, 2);
+        due("one who said nothing", 0, x.agree(0, 2, 0));
+        due("one who said nothing", 0, x.agree(2, 0, 1));
+        Checks.onion(x, 2, "5");
+        x.answers(2, 3, true, false);
+        due("D alike", 1, x.agree(2, 1, 0));
+        due("D alike", 0, x.agree(1, 2, 1));
+        due("no D of 0", 0, x.agree(2, 0, 0));
     }
 
     private static void agreeRefused() {

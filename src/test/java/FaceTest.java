@@ -89,7 +89,7 @@ public final class FaceTest {
     private static void words(String text) {
         String code = text.replaceAll("(?s)/\\*.*?\\*/", "").replaceAll("//.*", "").replaceAll("'.'", "' '");
         for (String word : List.of("throw", "throws", "try", "catch", "finally", "synchronized", "assert", "import", "package", "enum",
-            "record", "Object", "System", "Thread", "Random", "String", "protected", "instanceof")) {
+            "record", "Object", "System", "Long", "Arrays", "List", "Thread", "Random", "String", "protected", "instanceof")) {
             due("no " + word, false, Pattern.compile("\\b" + word + "\\b").matcher(code).find());
         }
         due("no lambda", false, code.contains("->"));

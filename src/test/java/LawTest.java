@@ -45,6 +45,15 @@ public final class LawTest {
         due("RULES", 3, x.count(4));
         Checks.law(x, ones(1));
         due("in place of the one before", 1, x.count(4));
+        x.witness(0, 0);
+        Checks.onion(x, 0, "50");
+        Checks.law(x, "g1(1=2);g9(1=1)");
+        Checks.law(x, "g1(1=2)");
+        x.weeks(1);
+        due("no RULE of the one before", 50, x.witnessIs(0, 10));
+        Checks.law(x, TestCourt.times(15, "g1(1=2)", ";") + ";g1+[1+[1+[1+[1+[1+[1]]]]]](1=1)");
+        x.weeks(1);
+        due("the 16th RULE", 57, x.witnessIs(0, 10));
     }
 
     private static void sizes() {
@@ -74,13 +83,13 @@ public final class LawTest {
             "l5(w=0&)", "l5(w=0|&w=0)", "l5(!)", "l5(!&w=0)", "l5((w=0)", "l5((w)=0)", "l5([w=0])", "l5([w]=0", "l[5(w=0)",
             "l5](w=0)", "l-5(w=0)", "l5+(w=0)", "l5*/2(w=0)", "l5w(w=0)", "lww(w=0)", "l5(w=0)(w=0)", "l5 (w=0)",
             "l(5)(w=0)", "l5(w!=0)", "l5(w=!0)", "l[](w=0)", "l5(w=0));c5(w=0)", "l5(\u00ff=0)", "lE(w=0)", "l5(0<1>2)",
-            "l5(w=0);x1(w=0)", "l5(w=(0))", "l5((w=0)&[w=0])", "l5(w=0&w)", "l5(w=0|)", "l5(1=1,1=1)", "l5(5"};
+            "l5(w=0);x1(w=0)", "l5(w=(0))", "l5((w=0)&[w=0])", "l5(w=0&w)", "l5(w=0|)", "l5(1=1,1=1)", "l5(5", "l5:(w=0)", "l:(w=0)", "l5(w=0:)"};
         int[] places = {0, 0, 0, 0, 0, 1, 1, 2, 2, 3, 3, 4,
             4, 5, 5, 6, 7, 8, 8, 3, 5, 6,
             7, 7, 4, 4, 8, 5, 5, 8, 3,
             2, 1, 3, 3, 2, 2, 7, 2,
             1, 4, 5, 2, 7, 3, 1, 6,
-            8, 5, 11, 8, 7, 6, 4};
+            8, 5, 11, 8, 7, 6, 4, 2, 1, 6};
         for (int i = 0; i < texts.length; i++) {
             takes(-1000 - places[i], texts[i]);
         }

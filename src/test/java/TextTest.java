@@ -153,9 +153,9 @@ public final class TextTest {
         OnionCourt x = new OnionCourt();
         x.witness(0, 4);
         String[] texts = {"x", ",", "5x", "5x1", "5x0", "5,", "5;", "123", "5x23", "5x2x2", "5,,5", " 5", "5 ", "-5", "5xx",
-            "5x,", "\u00b25", "5,x2", "1x9,1xq", "1x9,1x3,2x", "1x9,1x3,", "1x9,100", "5x10", "12x2;"};
+            "5x,", "\u00b25", "5,x2", "1x9,1xq", "1x9,1x3,2x", "1x9,1x3,", "1x9,100", "5x10", "12x2;", "5:", "5/", ":", "/", "5x:", "5x/"};
         int[] places = {0, 0, 2, 2, 2, 2, 1, 2, 3, 3, 2, 0, 1, 0, 2,
-            2, 0, 2, 6, 10, 8, 6, 2, 4};
+            2, 0, 2, 6, 10, 8, 6, 2, 4, 1, 1, 0, 0, 2, 2};
         for (int i = 0; i < texts.length; i++) {
             due("onion " + texts[i], -1000 - places[i], Checks.onion(x, 0, texts[i]));
         }
@@ -252,6 +252,12 @@ public final class TextTest {
         due("nothing is done", 0, x.count(1));
         due("nothing is peeled", 12, x.witnessIs(0, 1));
         due("empty then", 0, x.count(5));
+        OnionCourt y = new OnionCourt();
+        y.witness(0, 0);
+        Checks.onion(y, 0, "5");
+        for (int k = 0; k < 8; k++) {
+            due("none is told", -7001, Checks.transcript(y, "0" + (char) ('A' + k) + "+"));
+        }
     }
 
     private static void transcriptFull() {

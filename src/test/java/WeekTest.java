@@ -150,6 +150,14 @@ public final class WeekTest {
         layers(x, 50, 15);
         x.weeks(1);
         layers(x, 52, 17);
+        Checks.question(x, 3, "a");
+        x.answers(4, 3, true, true);
+        x.answers(4, 3, false, false);
+        Checks.law(x, "l5(1=1);c5(1=1);gk+z+f(1=1)");
+        due("weighed ahead", 2, x.likely(3, 3, 1));
+        Checks.onion(x, 4, "50");
+        x.weeks(1);
+        layers(x, 50);
     }
 
     private static void lastWeek() {
@@ -191,6 +199,9 @@ public final class WeekTest {
         for (int[] one : want) {
             due("tried " + one[0] + " " + one[1], one[2], x.tried(one[0], one[1]));
         }
+        due("30 is no such one", -1, x.tried(1, 30));
+        due("40 is no such one", -1, x.tried(1, 40));
+        due("-10 is no such one", -1, x.tried(1, -10));
         x.witness(9, 0);
         due("no LAYERS", 0, x.tried(1, 19));
         due("none together", 0, x.tried(1, 29));

@@ -109,6 +109,14 @@ public final class WeighTest {
         OnionCourt x = said("lh(1=1)");
         x.witness(2, 8);
         likely("HONESTY then", x, 3, 1, 7, 10);
+        Checks.onion(x, 2, "9");
+        due("by a TRANSCRIPT", 2, Checks.transcript(x, "2D+"));
+        x.witness(2, 1);
+        likely("HONESTY then", x, 3, 1, 7, 10);
+        likely("HONESTY at the TRANSCRIPT", x, 3, 2, 1, 5);
+        x.keep();
+        x.undo();
+        likely("HONESTY as KEPT", x, 3, 3, 7, 19);
         Checks.law(x, "lt(1=1)");
         x.weeks(5);
         likely("THE WEEK then", x, 3, 1, 4, 5);
@@ -147,6 +155,16 @@ public final class WeighTest {
         }
         likely("7 to 3 six times", x, 0, 63, 117649, 118378);
         likely("a&b", x, 1, 63, 117649, 236756);
+        Checks.question(x, 0, "a&b&c&d&e");
+        for (int i = 0; i < 5; i++) {
+            x.prior(i, 7);
+        }
+        Checks.law(x, "l3(1=1);c1(1=1)");
+        likely("no common divisor", x, 0, 1, 117649, 367228);
+        for (int i = 0; i < 5; i++) {
+            x.prior(i, 5);
+        }
+        Checks.question(x, 0, "a");
         Checks.law(x, "l10*f(1=1);c10(1=1)");
         x.prior(0, 3);
         likely("nobody is left", x, 0, 63, -2, -2);
@@ -299,6 +317,8 @@ public final class WeighTest {
         x.answers(0, 7, true, false);
         due("by the ANSWER", 2, x.askNext(1));
         due("not by it", 7, x.askNext(0));
+        Checks.question(x, 0, "a");
+        due("the very first", 0, x.askNext(0));
     }
 
     private static void askNextRefused() {

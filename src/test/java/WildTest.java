@@ -27,7 +27,7 @@ public final class WildTest {
         Checks.end("WildTest");
     }
 
-    /** Bytes that the calls take are compared with none: a call that makes but one object an object's life long is seen. */
+    /** Less than a byte a call: the machine itself may take some now and then. */
     private static void makesNothing() {
         com.sun.management.ThreadMXBean threads = (com.sun.management.ThreadMXBean) ManagementFactory.getThreadMXBean();
         long thread = Thread.currentThread().getId();
