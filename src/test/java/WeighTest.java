@@ -118,6 +118,7 @@ public final class WeighTest {
         x.undo();
         likely("HONESTY as KEPT", x, 3, 3, 7, 19);
         Checks.law(x, "lt(1=1)");
+        Checks.onion(x, 2, "70x2");
         x.weeks(5);
         likely("THE WEEK then", x, 3, 1, 4, 5);
         Checks.law(x, "ls/10(1=1)");
