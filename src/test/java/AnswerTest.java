@@ -131,6 +131,13 @@ public final class AnswerTest {
         for (int[] one : none) {
             due("answerIs " + one[0] + " " + one[1], -1, x.answerIs(one[0], one[1]));
         }
+        OnionCourt y = TestCourt.made();
+        Checks.transcript(y, TestCourt.times(10, "0A+;1E-*", ";"));
+        int[] last = {1, 4, 0, 1, 9, 3, 0};
+        for (int what = 0; what < last.length; what++) {
+            due("the 20th " + what, last[what], y.answerIs(19, what));
+            due("a 21st " + what, -1, y.answerIs(20, what));
+        }
     }
 
     private static void agree() {

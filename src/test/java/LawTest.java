@@ -14,6 +14,7 @@ public final class LawTest {
         wrapsAround();
         conditions();
         refused();
+        refusedOfEach();
         bounds();
         Checks.end("LawTest");
     }
@@ -232,6 +233,31 @@ public final class LawTest {
         grows(5, "g5(1=2&1/0=0|1=1)");
         grows(5, "g5(1=2&1=1&1/0=0|1=1)");
         grows(5, "g5(1=2|1=1|1/0=0)");
+    }
+
+    /** What is divided by 0 in the RULES of every letter: an E is 0, a C does not hold, so that the next RULE is asked. */
+    private static void refusedOfEach() {
+        grows(-9, "y9(1=1)");
+        grows(0, "y9/0(1=1);y9(1=1)");
+        grows(-9, "y7(1/0=1);y9(1=1)");
+        OnionCourt x = TestCourt.made();
+        x.answers(0, 0, true, true);
+        String[] laws = {"l2(1=1);c5(1=1)", "l2/0(1=1);l2(1=1);c5(1=1)", "l7(1/0=1);l2(1=1);c5(1=1)", "l5(1=1);c4+4*f(1=1)",
+            "l5(1=1);c4+4/[1-f]*0(1=1);c9(1=1)", "l5(1=1);c1(1/f=1);c4(1=1)", "l5(1=1);c3/z(1=1)"};
+        int[] above = {4, 1, 4, 2, 0, 1, 0};
+        int[] below = {5, 1, 5, 3, 1, 5, 1};
+        for (int i = 0; i < laws.length; i++) {
+            Checks.law(x, laws[i]);
+            due(laws[i] + ", above", above[i], x.likely(0, 1, 0));
+            due(laws[i] + ", below", below[i], x.likely(0, 1, 1));
+        }
+        Checks.law(x, "b10(1=1)");
+        Checks.onion(x, 1, "5");
+        due("b: one LAYER on eleven, eleven on one", 12, x.tried(60, 0));
+        Checks.law(x, "b10/0(1=1);b10(1=1)");
+        due("b is 0", 0, x.tried(60, 0));
+        Checks.law(x, "b0(1%0=0);b10(1=1)");
+        due("the next b", 12, x.tried(60, 0));
     }
 
     /** The bounds of l and c are told by likelihoods, that of b by a sprout at every DRAW. */

@@ -60,6 +60,10 @@ public final class StateTest {
         due("tenths -1", false, x.prior(1, -1));
         due("tenths 11", false, x.prior(1, 11));
         due("far", false, x.prior(LOW, HIGH));
+        due("far", false, x.prior(HIGH, 5));
+        due("far", false, x.prior(LOW, 5));
+        due("far", false, x.prior(1, HIGH));
+        due("far", false, x.prior(1, LOW));
         int[] want = {0, 5, 3, 5, 10};
         for (int i = 0; i < 5; i++) {
             due("PRIOR " + i, want[i], x.count(10 + i));
@@ -78,6 +82,10 @@ public final class StateTest {
         due("honesty 10", false, x.witness(1, 10));
         due("honesty -1", false, x.witness(1, -1));
         due("far", false, x.witness(HIGH, LOW));
+        due("far", false, x.witness(HIGH, 0));
+        due("far", false, x.witness(LOW, 0));
+        due("far", false, x.witness(1, HIGH));
+        due("far", false, x.witness(1, LOW));
         due("told", 1 | 1 << 9, x.count(2));
         Checks.question(x, 0, "a");
         Checks.onion(x, 0, "7,8");

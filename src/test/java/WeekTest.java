@@ -158,6 +158,9 @@ public final class WeekTest {
         Checks.onion(x, 4, "50");
         x.weeks(1);
         layers(x, 50);
+        due("a YES weighed ahead", 2, x.likely(3, 1, 1));
+        x.weeks(1);
+        layers(x, 50);
     }
 
     private static void lastWeek() {
@@ -228,6 +231,16 @@ public final class WeekTest {
             {1, 25}, {1, 30}, {1, 34}, {1, 4}, {1, HIGH}, {1, LOW}, {0, 14}, {61, 24}};
         for (int[] one : none) {
             due("tried " + one[0] + " " + one[1], -1, x.tried(one[0], one[1]));
+        }
+        x.witness(9, 0);
+        x.witness(0, 0);
+        Checks.onion(x, 9, "40,30");
+        Checks.onion(x, 0, "20");
+        due("9 is no such one", -1, x.tried(1, 9));
+        due("30 is no such one", -1, x.tried(1, 30));
+        int[][] last = {{10, 2}, {19, 3}, {20, 70}, {29, 120}};
+        for (int[] one : last) {
+            due("tried 1 " + one[0], one[1], x.tried(1, one[0]));
         }
     }
 }

@@ -13,6 +13,9 @@ public final class WeighTest {
         asItWasAtTheAnswer();
         byTears();
         largeNumbers();
+        largestNumbers();
+        twentyAnswers();
+        atTheLastWeek();
         cannotBe();
         likelyRefused();
         lie();
@@ -99,6 +102,9 @@ public final class WeighTest {
         likely("t in c", said("l5(1=1);ct*f(1=1)"), 3, 1, 4, 9);
         likely("z in c", said("l5(1=1);cz*5(1=1)"), 3, 1, 2, 3);
         likely("no LAW: none lies", said("g1(1=1)"), 3, 1, 1, 1);
+        OnionCourt z = said("l2+z*5(1=1)");
+        z.answers(2, 3, true, false);
+        likely("z is 0 in l, behind another ANSWER, too", z, 3, 3, 16, 17);
         OnionCourt x = said("l2+f*5(1=1)");
         x.answers(2, 3, false, false);
         likely("no", x, 3, 2, 7, 15);
@@ -171,6 +177,61 @@ public final class WeighTest {
         likely("nobody is left", x, 0, 63, -2, -2);
         Checks.law(x, "l9-9*f(1=1);c10-3*z(1=1)");
         likely("63 hundredths six times", x, 0, 63, 1000000000000L, 1000000000000L + 7L * 20841167403L);
+    }
+
+    /** Six ANSWERS that leave next to nothing of what a long can hold: 9^17 of 9^17 + 40951 * 7^6. */
+    private static void largestNumbers() {
+        OnionCourt x = TestCourt.made();
+        Checks.question(x, 0, "a&b&c&d&e");
+        for (int i = 0; i < 5; i++) {
+            x.prior(i, 9);
+        }
+        Checks.law(x, "l1(1=1);c9(z=0);c7(1=1)");
+        for (int i = 0; i < 6; i++) {
+            x.answers(0, 0, true, true);
+        }
+        likely("six", x, 0, 63, 16677181699666569L, 16677181699666569L + 40951L * 117649);
+        due("a lie in the last", 40951L * 117649, x.lie(5, 63, 0));
+        for (int i = 0; i < 5; i++) {
+            x.prior(i, 10);
+        }
+        Checks.law(x, "c10(1=1)");
+        likely("10^17 of 10^17", x, 0, 63, 1, 1);
+        due("WORLD", 31, x.world(63, 0));
+        due("FACTS", 31, x.world(63, 1));
+        due("the lowest", 0, x.askNext(63));
+    }
+
+    /** The first and the last bits there can be. */
+    private static void twentyAnswers() {
+        OnionCourt x = TestCourt.made();
+        Checks.transcript(x, TestCourt.times(10, "0A+;1E+", ";"));
+        Checks.law(x, "l2+w(1=1)");
+        likely("the 20th", x, 0, 1 << 19, 3, 10);
+        likely("the first", x, 0, 1, 4, 5);
+        likely("six of them", x, 0, 0xFC000, 4 * 4 * 4 * 3 * 3 * 3, 4 * 4 * 4 * 27 + 343);
+        likely("seven of them", x, 0, 0xFE000, -1, -1);
+        likely("a 21st", x, 0, 1 << 20, -1, -1);
+        due("a lie in the 20th", 3, x.lie(19, 1 << 19, 0));
+        due("a lie in a 21st", -1, x.lie(20, 0, 0));
+        due("WORLD by the 20th", 0, x.world(1 << 19, 0));
+        due("WORLD by a 21st", -1, x.world(1 << 20, 0));
+        due("askNext by the 20th", 3, x.askNext(1 << 19));
+        due("askNext by a 21st", -1, x.askNext(1 << 20));
+        x.strike();
+        likely("struck out", x, 0, 1 << 19, -1, -1);
+        due("struck out", -1, x.lie(19, 0, 0));
+    }
+
+    private static void atTheLastWeek() {
+        OnionCourt x = TestCourt.made();
+        for (int i = 0; i < 17; i++) {
+            x.weeks(60);
+        }
+        x.answers(0, 0, true, false);
+        due("THE WEEK", 999, x.answerIs(0, 6));
+        Checks.law(x, "l3(t=999)");
+        likely("t at the last WEEK", x, 0, 1, 7, 10);
     }
 
     private static void cannotBe() {
