@@ -9,6 +9,7 @@ public final class LawTest {
         faults();
         depths();
         faultsByNumber();
+        everyByte();
         values();
         letters();
         wrapsAround();
@@ -131,6 +132,20 @@ public final class LawTest {
         due("the one before stays", 6, x.witnessIs(0, 10));
     }
 
+    /** Each byte at each place of a RULE: a byte 0 is no end, and bytes above 127 are not below 0. */
+    private static void everyByte() {
+        for (char sign = 0; sign < 256; sign++) {
+            boolean isDigit = "0123456789".indexOf(sign) >= 0;
+            boolean isBetween = "+-*/%".indexOf(sign) >= 0;
+            takes("lcgyb".indexOf(sign) >= 0 ? -1001 : -1000, "" + sign);
+            takes(isDigit || "whsjkfzt".indexOf(sign) >= 0 ? 1 : sign == '[' ? -1002 : -1001, "g" + sign + "(1=1)");
+            takes(isDigit ? 1 : isBetween ? -1003 : sign == '(' ? -1008 : -1002, "g1" + sign + "(1=1)");
+            takes("<>=".indexOf(sign) >= 0 ? 1 : isDigit || isBetween ? -1006 : -1004, "g1(1" + sign + "1)");
+            takes("&|".indexOf(sign) >= 0 ? 1 : isDigit || isBetween ? -1008 : sign == ')' ? -1007 : -1006, "g1(1=1" + sign + "1=1)");
+            takes(sign == ';' ? -1008 : -1007, "g1(1=1)" + sign);
+        }
+    }
+
     /** By how much a LAYER of 50 grows in a WEEK (w 3, h 7, s 50, j 2, t 4). */
     private static int grown(String law) {
         OnionCourt x = new OnionCourt();
@@ -206,6 +221,10 @@ public final class LawTest {
         grows(0, "g5(!1=2&1=2)");
         grows(5, "g5(!1=1|1=1)");
         grows(5, "g5(!(1=2&1=2))");
+        grows(5, "g5(1=1&!1=2)");
+        grows(0, "g5(1=1&!1=1)");
+        grows(5, "g5(1=2|!1=2)");
+        grows(5, "g5(1=2|1=1&!(1=1&!1=1))");
         grows(5, "g5(!!1=1)");
         grows(0, "g5(!!!1=1)");
         grows(5, "g5(1+1=4/2)");
@@ -223,6 +242,11 @@ public final class LawTest {
         grows(7, "g5(0<1/0);g7(1=1)");
         grows(7, "g5(!1/0=0);g7(1=1)");
         grows(7, "g5(!(1=1&1/0=0));g7(1=1)");
+        grows(7, "g5(!1/0=0|1=1);g7(1=1)");
+        grows(7, "g5(!!1/0=0|1=1);g7(1=1)");
+        grows(7, "g5((!1/0=0)|1=1);g7(1=1)");
+        grows(7, "g5(1=2|!1/0=0|1=1);g7(1=1)");
+        grows(7, "g5(!(!(1/0=0|1=1)|1=1)|1=1);g7(1=1)");
         grows(7, "g5(1/0=0|1=1);g7(1=1)");
         grows(7, "g5((1=2|1/0=0)|1=1);g7(1=1)");
         grows(7, "g5(!(1/0=0&1=2));g7(1=1)");

@@ -13,9 +13,11 @@ public final class PuzzleTest {
         seenRefused();
         skins();
         skinsRow();
+        skinsBehindOthers();
         skinsRefused();
         skinsTape();
         onionsFor();
+        onionsForNothing();
         onionsForFive();
         onionsForRefused();
         peeled();
@@ -133,6 +135,19 @@ public final class PuzzleTest {
         row(20, sizes(7, 6, 6, 8, 7, 6), 0, 0, 1, 1, 0, 1);
     }
 
+    /** What lay on the tape before does not count. */
+    private static void skinsBehindOthers() {
+        OnionCourt x = new OnionCourt();
+        due("ten boxes", 10, Checks.skins(x, Checks.bytes(99, 99, 99, 99, 99, 99, 99, 99, 99, 99), 99, 20));
+        due("one box", 1, Checks.skins(x, Checks.bytes(50, 49), 99, 20));
+        due("one box", 0, Checks.skins(x, Checks.bytes(50, 49), 99, 1));
+        due("two boxes", 2, Checks.skins(x, Checks.bytes(50, 50), 99, 20));
+        due("one skin", 1, Checks.skins(x, Checks.bytes(99), 99, 20));
+        due("nine in one", 1, Checks.skins(x, Checks.bytes(1, 2, 3, 4, 5, 6, 7, 8, 9), 45, 20));
+        due("nine in two", 2, Checks.skins(x, Checks.bytes(1, 2, 3, 4, 5, 6, 7, 8, 9), 44, 20));
+        due("the first alone in the other", 1, Checks.skins(x, Checks.bytes(1, 2, 3, 4, 5, 6, 7, 8, 9), 44, 8));
+    }
+
     private static void skinsRefused() {
         OnionCourt x = new OnionCourt();
         x.feed(0x05050404, 0, 0, 0, 0);
@@ -205,6 +220,24 @@ public final class PuzzleTest {
         changed(y, 0, 0, 0, 1, 1, 2, 2);
         y.witness(1, 1);
         changed(y, 3, 0, 0, 1, 2, 2, 1);
+    }
+
+    /** All rows are worth 0: the least, whatever was asked ahead. */
+    private static void onionsForNothing() {
+        OnionCourt x = court("9,1", "8", "7x2");
+        x.witness(0, 5);
+        Checks.onion(x, 1, "99");
+        changed(x, 5 * 99 + 2 * 14, 0, 1, 1, 0, 2, 2);
+        x.witness(0, 0);
+        x.witness(1, 0);
+        x.witness(2, 0);
+        changed(x, 0, 0, 0, 1, 1, 2, 2);
+        changed(x, 0, 0, 0, 2, 2);
+        x.witness(0, 9);
+        changed(x, 0, 0, 0, 1, 1);
+        Checks.onion(x, 1, "1");
+        changed(x, 9, 0, 1, 1, 0);
+        changed(x, 0, 0, 0, 2, 2);
     }
 
     private static void onionsForFive() {

@@ -23,6 +23,9 @@ public final class TextTest {
         transcriptFull();
         transcriptPeels();
         transcriptOrder();
+        everyByteOfAQuestion();
+        everyByteOfAnOnion();
+        everyByteOfATranscript();
         Checks.end("TextTest");
     }
 
@@ -301,5 +304,48 @@ public final class TextTest {
         x.weeks(3);
         Checks.transcript(x, "0A+");
         due("THE WEEK", 3, x.answerIs(0, 6));
+    }
+
+    private static boolean isOneOf(String signs, char sign) {
+        return signs.indexOf(sign) >= 0;
+    }
+
+    /** A byte 0 is no end, and bytes above 127 are not below 0. */
+    private static void everyByteOfAQuestion() {
+        for (char sign = 0; sign < 256; sign++) {
+            int first = isOneOf("(!", sign) ? -1001 : -1000;
+            first = isOneOf("abcde", sign) ? 16 : sign == '0' ? 0 : sign == '1' ? 32 : first;
+            due("question of byte " + (int) sign, first, Checks.question(new OnionCourt(), 0, "" + sign));
+            int second = isOneOf("|^&", sign) ? -1002 : -1001;
+            due("question a and byte " + (int) sign, second, Checks.question(new OnionCourt(), 0, "a" + sign));
+        }
+    }
+
+    private static void everyByteOfAnOnion() {
+        OnionCourt x = new OnionCourt();
+        for (char sign = 0; sign < 256; sign++) {
+            if (sign % 100 == 0) {
+                x = new OnionCourt();
+                x.witness(0, 0);
+            }
+            int first = isOneOf("123456789", sign) ? 1 : sign == '0' ? -3000 : -1000;
+            due("onion of byte " + (int) sign, first, Checks.onion(x, 0, "" + sign));
+            int second = isOneOf("0123456789", sign) ? 1 : isOneOf("x,", sign) ? -1002 : -1001;
+            due("onion 5 and byte " + (int) sign, second, Checks.onion(x, 0, "5" + sign));
+        }
+    }
+
+    private static void everyByteOfATranscript() {
+        for (char sign = 0; sign < 256; sign++) {
+            OnionCourt x = TestCourt.made();
+            int first = isOneOf("01", sign) ? -1001 : isOneOf("23456789", sign) ? -7000 : -1000;
+            due("transcript of byte " + (int) sign, first, Checks.transcript(x, "" + sign));
+            int second = isOneOf("ABCDE", sign) ? -1002 : isOneOf("FGH", sign) ? -7001 : -1001;
+            due("transcript 0 and byte " + (int) sign, second, Checks.transcript(x, "0" + sign));
+            int third = isOneOf("+-", sign) ? 1 : -1002;
+            due("transcript 0A and byte " + (int) sign, third, Checks.transcript(x, "0A" + sign));
+            int fourth = sign == '*' ? 1 : sign == ';' ? -1004 : -1003;
+            due("transcript 0A+ and byte " + (int) sign, fourth, Checks.transcript(x, "0A+" + sign));
+        }
     }
 }

@@ -14,6 +14,7 @@ public final class WeighTest {
         byTears();
         largeNumbers();
         largestNumbers();
+        smallestNumbers();
         twentyAnswers();
         atTheLastWeek();
         cannotBe();
@@ -200,6 +201,28 @@ public final class WeighTest {
         due("WORLD", 31, x.world(63, 0));
         due("FACTS", 31, x.world(63, 1));
         due("the lowest", 0, x.askNext(63));
+    }
+
+    /** All weights together are 1, in the last WORLD: that is not yet 0. */
+    private static void smallestNumbers() {
+        OnionCourt x = TestCourt.made();
+        Checks.question(x, 0, "a&b&c&d&e");
+        for (int i = 0; i < 5; i++) {
+            x.prior(i, 1);
+        }
+        Checks.law(x, "l9(f=1);c9(1=1)");
+        x.answers(0, 0, true, false);
+        likely("it holds", x, 0, 1, 1, 1);
+        likely("!a", x, 4, 1, 0, 1);
+        due("no lie", 0, x.lie(0, 1, 0));
+        due("no lie", 1, x.lie(0, 1, 1));
+        due("WORLD", 31, x.world(1, 0));
+        due("FACTS", 31, x.world(1, 1));
+        due("the lowest", 0, x.askNext(1));
+        x.prior(2, 0);
+        likely("it can't be", x, 0, 1, -2, -2);
+        due("it can't be", -2, x.world(1, 0));
+        due("it can't be", -2, x.askNext(1));
     }
 
     /** The first and the last bits there can be. */
