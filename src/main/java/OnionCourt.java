@@ -521,7 +521,8 @@ public final class OnionCourt {
 
         /** Behind a FAULT nothing but the end is read, so that every reader comes to its own end. */
         int sign() {
-            return fault != 0 || place >= length || place >= bytes.length ? END : bytes[place];
+            boolean isInside = place >= 0 && place < length && place < bytes.length;
+            return fault == 0 && isInside ? bytes[place] : END;
         }
 
         /** Takes a digit: its value, NONE if there stands none. */
@@ -773,7 +774,7 @@ public final class OnionCourt {
             if (layers + times > LAYERS) {
                 text.refuse(6, first);
             }
-            for (int i = 0; i < times && layers < LAYERS; i++) {
+            for (int i = 0; i < times && layers >= 0 && layers < LAYERS; i++) {
                 strengths[layers] = strength;
                 layers++;
             }
@@ -1540,7 +1541,7 @@ public final class OnionCourt {
                 for (int b = 0; b < SKINS; b++) {
                     loads[b] = 0;
                 }
-                if (place(0, 0, most)) {
+                if (place(this, 0, 0, most)) {
                     return most;
                 }
             }
@@ -1551,18 +1552,18 @@ public final class OnionCourt {
         }
 
         /** Calls itself once a skin, ten deep at most. */
-        private boolean place(int i, int begun, int most) {
-            if (i < 0 || i >= skins || i >= SKINS) {
+        private static boolean place(Boxes in, int i, int begun, int most) {
+            if (i < 0 || i >= in.skins || i >= SKINS) {
                 return true;
             }
             for (int b = 0; b <= begun && b < most && b < SKINS; b++) {
-                if (loads[b] + sizes[i] <= room) {
-                    loads[b] += sizes[i];
-                    row[i] = b;
-                    if (place(i + 1, Math.max(begun, b + 1), most)) {
+                if (in.loads[b] + in.sizes[i] <= in.room) {
+                    in.loads[b] += in.sizes[i];
+                    in.row[i] = b;
+                    if (place(in, i + 1, Math.max(begun, b + 1), most)) {
                         return true;
                     }
-                    loads[b] -= sizes[i];
+                    in.loads[b] -= in.sizes[i];
                 }
             }
             return false;
@@ -1603,19 +1604,19 @@ public final class OnionCourt {
 
         void settle() {
             most = -1;
-            give(0, 0, 0);
+            give(this, 0, 0, 0);
         }
 
         /** Calls itself once a WITNESS, five deep at most. */
-        private void give(int i, int taken, int sum) {
-            if (i < 0 || i >= size || i >= SWAPPERS) {
-                note(sum);
+        private static void give(Exchange in, int i, int taken, int sum) {
+            if (i < 0 || i >= in.size || i >= SWAPPERS) {
+                in.note(sum);
                 return;
             }
-            for (int j = 0; j < size && j < SWAPPERS; j++) {
+            for (int j = 0; j < in.size && j < SWAPPERS; j++) {
                 if ((taken >> j & 1) == 0) {
-                    row[i] = j;
-                    give(i + 1, taken | 1 << j, sum + honesties[i] * onions[j]);
+                    in.row[i] = j;
+                    give(in, i + 1, taken | 1 << j, sum + in.honesties[i] * in.onions[j]);
                 }
             }
         }

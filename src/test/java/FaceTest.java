@@ -19,6 +19,10 @@ public final class FaceTest {
         "int seen(int,int,int)", "int skins(int,int,int)", "int onionsFor(int,int)", "int peeled(int,int)", "boolean seed(int)",
         "int keep()", "boolean undo()", "int check(int,int)", "int count(int)");
 
+    /** The head of a method or constructor: indent, words ahead of the name, name. */
+    private static final Pattern HEADER =
+        Pattern.compile("( {4}(?: {4})?)(?! |for |if |switch |while )([\\w\\[\\] ]*?)(\\w+)\\(.*\\) \\{");
+
     private FaceTest() {
     }
 
@@ -117,15 +121,26 @@ public final class FaceTest {
 
     private static void methods(String text) {
         String[] lines = text.split("\n");
-        int from = -1;
-        for (int i = 0; i < lines.length; i++) {
-            if (lines[i].matches(" {4}(?: {4})?[a-zA-Z].*\\(.*\\) \\{")) {
-                from = i;
-            }
-            if (from >= 0 && lines[i].matches(" {4}(?: {4})?}")) {
-                due(lines[from] + " is short", true, i - from < 60);
-                from = -1;
+        int headers = 0;
+        for (int from = 0; from < lines.length; from++) {
+            Matcher header = HEADER.matcher(lines[from]);
+            if (header.matches()) {
+                headers++;
+                int to = from;
+                while (!lines[to].equals(header.group(1) + "}")) {
+                    to++;
+                }
+                due(lines[from] + " is short", true, to - from < 60);
+                String body = String.join("\n", Arrays.asList(lines).subList(from + 1, to));
+                boolean callsItself = Pattern.compile("(?<![.\\w])" + header.group(3) + "\\(").matcher(body).find();
+                due(lines[from] + " is private static if it calls itself", true,
+                    !callsItself || header.group(2).startsWith("private static "));
             }
         }
+        int methods = OnionCourt.class.getDeclaredMethods().length;
+        for (Class<?> c : OnionCourt.class.getDeclaredClasses()) {
+            methods += c.getDeclaredMethods().length;
+        }
+        due("the head of every method was found", true, headers >= methods);
     }
 }
